@@ -659,8 +659,9 @@ public final class StochasticBench {
 
         /** How many of all draws lead to the upper neighbor. */
         private long drawsUp() {
-            long gap = numeratorOf(upper - lower);
-            long aboveLower = numerator - numeratorOf(lower);
+            long unit = divisor << FRACTION_BITS;
+            long gap = (upper - lower) * unit;
+            long aboveLower = numerator - lower * unit;
             return gap < 1 ? 0 : Math.floorDiv((aboveLower << bits) + gap - 1, gap);
         }
 

@@ -48,6 +48,7 @@ public final class PromisesTest {
         p38Between();
         p39Contains();
         p40Undo();
+        p40UndoOfEach();
         p41Told();
         p42Digest();
         System.out.println(wrong == 0 ? "PromisesTest: all answers are as due" : "PromisesTest: " + wrong + " wrong");
@@ -186,6 +187,8 @@ public final class PromisesTest {
         x.setValue(3, 1024);
         due("2 same format", x.setFormat(2, 7, 0, 3), 7);
         due("2 same format empties too", x.value(3), 0);
+        x.setFormat(0, 4, -4, 3);
+        due("2 the first register is emptied, too", x.value(0), 0);
         long d = x.digest();
         int[][] bad = {
             {-1, 4, -4, 3}, {4, 4, -4, 3}, {0, 0, -4, 3}, {0, 11, -4, 0}, {0, 4, -11, 3}, {0, 4, 1, 3}, {0, 4, -4, -1},
@@ -358,6 +361,15 @@ public final class PromisesTest {
             x.setValue(1, 4096);
             due("the greatest value by mode " + mode, x.operate(1, 2, 0, 1), 12288);
             due("it is no overflow by mode " + mode, x.flags(4), 0);
+            x.setValue(0, -8192);
+            due("the least value by mode " + mode, x.operate(2, 2, 0, 1), -12288);
+            due("it is no overflow either by mode " + mode, x.flags(5), 0);
+            x = coarseAndFine(mode);
+            x.setValue(4, 1);
+            x.setValue(5, 512);
+            due("half of the smallest value by mode " + mode, x.operate(3, 6, 4, 5), mode == 1 ? 1 : 0);
+            x.setValue(5, -512);
+            due("its negative by mode " + mode, x.operate(3, 6, 4, 5), mode == 0 ? -1 : 0);
         }
         StochasticBench x = coarse();
         x.setMode(3);
@@ -478,6 +490,20 @@ public final class PromisesTest {
         due("14 and are a change", x.told(4), 4);
         type(x, "#2(#99(#99())5=1;)");
         due("14 empty loops before an operation", x.run(), 2);
+        type(x, "#99(#99(#99()#99()))5=1;");
+        due("14 very many rounds before an operation", x.run(), 1);
+        type(x, "#0(5=1;#9(5=1;)5=1;)6=1;6=1;");
+        due("14 what follows a loop of no rounds", x.run(), 2);
+        type(x, "#1(5=1;#1(5=1;#1(5=1;)))");
+        due("14 loops of one round", x.run(), 3);
+        type(x, "#2(#3(5=1;)#2(#4(5=1;)))");
+        due("14 loops side by side", x.run(), 2 * (3 + 8));
+        type(x, "#5(#5(#5(5=1/0;)))");
+        x.setValue(0, 0);
+        due("14 stops within three loops", x.run(), 0);
+        due("14 and once more", x.run(), 0);
+        type(x, "#2(#2(#2(5=1;)))");
+        due("14 loops after such a stop", x.run(), 8);
         type(x, "#07(5=1;)");
         due("14 count with a leading 0", x.run(), 7);
         type(x, "#10(5=1;)");
@@ -685,10 +711,14 @@ public final class PromisesTest {
         x.operate(0, 2, 1, 1);
         due("23 lower of a value", x.neighbor(3, false), 1024);
         due("23 upper of a value", x.neighbor(3, true), 1024);
+        x.setValue(3, 8192);
+        x.operate(3, 2, 0, 3);
+        due("23 lower of a negative overflow", x.neighbor(4, false), -12288);
+        due("23 upper of a negative overflow", x.neighbor(4, true), -12288);
         x.setFormat(0, 4, -4, 3);
         due("23 by the format as it was", x.neighbor(1, false), -6144);
         due("23 index -1", x.neighbor(-1, true), BAD);
-        due("23 index 4", x.neighbor(4, false), BAD);
+        due("23 index 5", x.neighbor(5, false), BAD);
     }
 
     private static void p24DrawOf() {
@@ -773,10 +803,14 @@ public final class PromisesTest {
         fraction("26 great quotient", x, 10, 341 * 1024, 1);
         x.operate(5, 7, 5, 6);
         fraction("26 small quotient", x, 11, 1, 341 * 1024);
+        x.setValue(4, 1);
+        x.setValue(5, 2);
+        x.operate(3, 7, 4, 5);
+        fraction("26 to be shortened by 2 alone", x, 12, 1, 1 << 19);
         due("26 index -1", x.exactNumerator(-1), BAD);
-        due("26 index 12", x.exactNumerator(12), BAD);
+        due("26 index 13", x.exactNumerator(13), BAD);
         due("27 index -1", x.exactDenominator(-1), BAD);
-        due("27 index 12", x.exactDenominator(12), BAD);
+        due("27 index 13", x.exactDenominator(13), BAD);
     }
 
     private static void fraction(String what, StochasticBench x, int i, long numerator, long denominator) {
@@ -1054,6 +1088,30 @@ public final class PromisesTest {
         due("40 the text may change", x.clear(), 18);
         due("40 undo does not bring it back", x.undo(), STATE);
         due("40 it is empty", x.told(5), 0);
+    }
+
+    /** Each kind of change undone by itself. */
+    private static void p40UndoOfEach() {
+        for (int i = 0; i < 9; i++) {
+            StochasticBench x = withMeans();
+            x.setMode(4);
+            type(x, "#2(2=2+1;3=+1*2;)");
+            long before = withoutStates(x);
+            switch (i) {
+                case 0: x.setFormat(0, 3, -2, 1); break;
+                case 1: x.setRegister(0, 3); break;
+                case 2: x.setValue(0, 8192); break;
+                case 3: x.setMode(0); break;
+                case 4: x.setBits(5); break;
+                case 5: x.setSeed(99); break;
+                case 6: x.operate(1, 7, 0, 1); break;
+                case 7: x.run(); break;
+                default: x.clearAccount(); break;
+            }
+            due("40 something changed by " + i, withoutStates(x) == before ? 1 : 0, 0);
+            due("40 undo of the change " + i, x.undo(), 5);
+            due("40 all is as before the change " + i, withoutStates(x), before);
+        }
     }
 
     /** What stopped() adds to the hash of all that may be undone. */
