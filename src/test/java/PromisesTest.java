@@ -494,6 +494,8 @@ public final class PromisesTest {
         due("14 very many rounds before an operation", x.run(), 1);
         type(x, "#0(5=1;#9(5=1;)5=1;)6=1;6=1;");
         due("14 what follows a loop of no rounds", x.run(), 2);
+        type(x, "#2(5=1;#0(5=1;)6=1;)");
+        due("14 a loop of no rounds within another", x.run(), 4);
         type(x, "#1(5=1;#1(5=1;#1(5=1;)))");
         due("14 loops of one round", x.run(), 3);
         type(x, "#2(#3(5=1;)#2(#4(5=1;)))");
