@@ -1,3 +1,5 @@
+import java.io.PrintWriter;
+import java.io.StringWriter;
 import java.lang.reflect.Constructor;
 import java.lang.reflect.Field;
 import java.lang.reflect.Member;
@@ -8,10 +10,14 @@ import java.nio.file.Path;
 import java.util.ArrayList;
 import java.util.Arrays;
 import java.util.List;
+import java.util.Map;
+import java.util.Optional;
 import java.util.Set;
+import java.util.TreeMap;
 import java.util.TreeSet;
 import java.util.regex.Matcher;
 import java.util.regex.Pattern;
+import java.util.spi.ToolProvider;
 
 /** The document's face, and those rules of LANGUAGE.md that can be looked at from outside. */
 public final class LanguageTest {
@@ -37,6 +43,7 @@ public final class LanguageTest {
         checkFace();
         checkMembers();
         checkSource(Files.readString(Path.of("src/main/java/StochasticBench.java")));
+        checkDepth();
         System.out.println(wrong == 0 ? "LanguageTest: all rules are kept" : "LanguageTest: " + wrong + " rules broken");
         if (wrong != 0) {
             System.exit(1);
@@ -140,5 +147,56 @@ public final class LanguageTest {
 
     private static int indent(String line) {
         return line.length() - line.stripLeading().length();
+    }
+
+    /** No recursion, and calls go at most eight deep, the public method and the library's counted. */
+    private static void checkDepth() {
+        Optional<ToolProvider> javap = ToolProvider.findFirst("javap");
+        if (javap.isEmpty()) {
+            System.out.println("LanguageTest: there is no javap here, so the depth of calls is not looked at");
+            return;
+        }
+        Map<String, Set<String>> calls = new TreeMap<>();
+        for (Class<?> c : StochasticBench.class.getDeclaredClasses()) {
+            readCalls(javap.get(), c.getName(), calls);
+        }
+        readCalls(javap.get(), "StochasticBench", calls);
+        must(calls.containsKey("StochasticBench.digest"), "the calls are found");
+        for (String method : calls.keySet()) {
+            int depth = depth(method, calls, new ArrayList<>());
+            must(depth <= 8, method + " goes at most eight deep, not " + depth);
+        }
+    }
+
+    private static void readCalls(ToolProvider javap, String name, Map<String, Set<String>> calls) {
+        StringWriter text = new StringWriter();
+        javap.run(new PrintWriter(text), new PrintWriter(text), "-c", "-p", "-classpath", System.getProperty("java.class.path"), name);
+        Pattern header = Pattern.compile("  \\S.*?([\\w$]+)\\(.*\\);|  ([\\w$]+)\\(\\);");
+        Pattern call = Pattern.compile(".*: invoke.*// (?:Interface)?Method (?:([\\w$/]+)\\.)?\"?([\\w$<>]+)\"?:.*");
+        Set<String> found = null;
+        for (String line : text.toString().split("\n")) {
+            Matcher h = header.matcher(line);
+            Matcher m = call.matcher(line);
+            if (h.matches()) {
+                String method = h.group(1) != null ? h.group(1) : h.group(2);
+                found = calls.computeIfAbsent(name + "." + (method.equals(name) ? "<init>" : method), k -> new TreeSet<>());
+            } else if (m.matches() && found != null) {
+                found.add((m.group(1) == null ? name : m.group(1)) + "." + m.group(2));
+            }
+        }
+    }
+
+    private static int depth(String method, Map<String, Set<String>> calls, List<String> open) {
+        if (open.contains(method)) {
+            must(false, "no recursion: " + open + " and again " + method);
+            return 0;
+        }
+        open.add(method);
+        int deepest = 0;
+        for (String next : calls.getOrDefault(method, Set.of())) {
+            deepest = Math.max(deepest, depth(next, calls, open));
+        }
+        open.remove(open.size() - 1);
+        return deepest + 1;
     }
 }
