@@ -644,6 +644,15 @@ public final class BoundariesOfNumbersTest {
             check.due("to zero", x.replay(1, 2, 5), 6144);
             check.due("nearest", x.replay(1, 3, 5), 6144);
         }
+        StochasticBench many = coarse(4);
+        many.setValue(4, 512);
+        Checks.type(many, "#70(0=4;)");
+        many.run();
+        for (int i = 0; i < 64; i++) {
+            int number = 6 + i;
+            check.due("the number, where it is not the index", many.replay(i, 4, 9), draw(number, 9, 8) < 128 ? 1024 : 0);
+            check.due("as it was", many.replay(i, 4, 1), many.result(i));
+        }
         for (int mode = 0; mode <= 4; mode++) {
             check.due("an overflow", near(0, 12288, 1, 1).replay(0, mode, 5), 12288);
             check.due("an overflow below", near(4, -12288, 1, -1).replay(0, mode, 5), -12288);

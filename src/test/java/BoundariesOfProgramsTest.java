@@ -448,6 +448,7 @@ public final class BoundariesOfProgramsTest {
         for (int before : new int[] {0, 1, 5, 64, 70}) {
             for (int seed : new int[] {1, 2, 3, Integer.MAX_VALUE, Integer.MIN_VALUE, -1}) {
                 StochasticBench x = stochastic(before);
+                x.setBits(1 + before % 8);
                 int[] guesses = new int[8];
                 for (int r = 0; r <= 7; r++) {
                     guesses[r] = x.ifRun(r, 4, seed);
