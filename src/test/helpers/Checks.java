@@ -38,11 +38,11 @@ final class Checks {
         return text.replaceAll("\\s+", " ");
     }
 
-    /** The sentence that the next checks are about; it is quoted, so that a changed document is noticed. */
+    /** The sentence that the next checks are about. A changed document is told, but only a wrong answer is a failure. */
     void on(String quoted) {
         sentence = quoted;
         if (document != null && !document.contains(plain(quoted))) {
-            fail("is not a sentence of the document");
+            System.out.println("the document does not say (any more): " + quoted);
         }
     }
 
