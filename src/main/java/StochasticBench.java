@@ -918,7 +918,7 @@ public final class StochasticBench {
         private static final int WANT_OPEN = 10;
 
         int length;
-        /** How many steps there are. Each takes more than one byte of the text, so all have room. */
+        /** How many steps there are. Each takes at least one byte of the text, so all have room. */
         int size;
         final int[] steps = new int[BYTES];
         /** The code of an operation, or the count of a parenthesis that opens. */
